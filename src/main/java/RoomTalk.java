@@ -51,7 +51,6 @@ public final class RoomTalk {
     private static final int WORD_BLOCK = 1;
     private static final int WORD_ONE = 4;
     private static final int WORD_RED = 5;
-    private static final int WORD_WHITE = 8;
     private static final int WORD_BIG = 9;
     private static final int WORD_SMALL = 10;
     private static final int WORD_PUT = 11;
