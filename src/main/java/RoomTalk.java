@@ -913,16 +913,21 @@ public final class RoomTalk {
             restart();
             int start = 0;
             for (int i = 0; i <= n; i++) {
-                if (i < n && !canStand(tape, i, n)) {
+                if (i < n && tape.isLetter(i)) {
+                    continue;
+                }
+                if (i < n && !endsWord(tape, start, i)) {
                     return faultAt(FAULT_BYTE, i);
                 }
-                if (i == n || !tape.isLetter(i)) {
-                    int fault = hearWord(tape, start, i, n, words);
-                    if (fault != 0) {
-                        return faultAt(fault, start);
-                    }
-                    start = i + 1;
+                int fault = hearWord(tape, start, i, n, words);
+                if (fault != 0) {
+                    return faultAt(fault, start);
                 }
+                // Only now, for the word that a blank at the end stands behind is further left.
+                if (i == n - 1) {
+                    return faultAt(FAULT_BYTE, i);
+                }
+                start = i + 1;
             }
             if (!canEnd()) {
                 return faultAt(FAULT_ORDER, n);
@@ -946,11 +951,8 @@ public final class RoomTalk {
             atHand = false;
         }
 
-        private static boolean canStand(Tape tape, int i, int n) {
-            if (tape.isLetter(i)) {
-                return true;
-            }
-            return tape.byteAt(i) == BLANK && i > 0 && i < n - 1 && tape.byteAt(i - 1) != BLANK;
+        private static boolean endsWord(Tape tape, int start, int i) {
+            return tape.byteAt(i) == BLANK && i > start;
         }
 
         private int hearWord(Tape tape, int start, int end, int n, Words words) {

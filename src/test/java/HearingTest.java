@@ -11,6 +11,7 @@ public final class HearingTest {
         faultKnown();
         faultSeventh();
         faultByte();
+        faultAheadOfBlankAtEnd();
         readings();
         Talk.finish();
     }
@@ -161,6 +162,26 @@ public final class HearingTest {
         talk.said("put block 9", -1004);
         talk.said("take{it", -5004);
         talk.said("take`it", -5004);
+    }
+
+    private static void faultAheadOfBlankAtEnd() {
+        Talk talk = Talk.withFive();
+        talk.said("ng ", -2000);
+        talk.said("take foo ", -2005);
+        talk.said("foo means bar ", -2010);
+        talk.said("put block ", -1004);
+        talk.said("drop it ", -1005);
+        talk.said("box means ", -3000);
+        String six = "many one on it in it under it on it in it under it";
+        talk.said(six + " on ", -4000 - six.length() - 1);
+        talk.said(six + " ", -5000 - six.length());
+        talk.said("take foo  ", -2005);
+        talk.said("take it  ", -5008);
+        talk.said("take ", -5004);
+        talk.said("drop ", -5004);
+        talk.said("foo means ", -5009);
+        talk.said("put it ", -5006);
+        Talk.due("no saying at hand behind a fault", talk.room.count(7), 0);
     }
 
     private static void readings() {

@@ -205,8 +205,7 @@ final class Model {
             if (end < text.length() && text.substring(end, end + 1).matches("[a-z]")) {
                 continue;
             }
-            if (end < text.length()
-                    && (text.charAt(end) != ' ' || end == 0 || end == text.length() - 1 || end == start)) {
+            if (end < text.length() && (text.charAt(end) != ' ' || end == start)) {
                 return -5000 - end;
             }
             String word = text.substring(start, end);
@@ -228,6 +227,9 @@ final class Model {
             boolean fits = matcher.matches();
             if (!fits && !matcher.hitEnd() || !read(form.toString(), said, false)) {
                 return -1000 - start;
+            }
+            if (text.substring(end).equals(" ")) {
+                return -5000 - end;
             }
             start = end + 1;
         }
