@@ -231,6 +231,13 @@ public final class DoingEdgesTest {
         Talk.due("where", talk.room.where(0), 1);
         Talk.due("sayings", talk.room.count(2), 0);
         Talk.due("at hand", talk.room.count(7), 1);
+        String[] others = {"many block", "foo means block", "i own block", "is a block on a block"};
+        for (int m = 0; m < others.length; m++) {
+            talk.said("put the green block in the box", 1);
+            Talk.due("plan", talk.room.plan(NONE), 4);
+            talk.doneAs(others[m], m);
+            Talk.due("events behind '" + others[m] + "'", talk.room.count(1), 2);
+        }
     }
 
     /** "in this room now": a plan follows what is done ahead of it. */

@@ -3,7 +3,8 @@ import java.util.Random;
 
 /** Runs of calls by chance (the same ones each time), each answer held against the model's. */
 public final class ModelTest {
-    private static final int CALLS = 512;
+    // An object has 512 calls; a step, of which the last may begin just ahead of this number, makes some forty.
+    private static final int CALLS = 450;
     private static final String[] ADJECTIVES = {"red", "green", "blue", "white", "big", "small"};
     private static final String[] ALL_WORDS = ("thing block pyramid box one red green blue white big small put take drop "
             + "is many which means i own no the a it that on in under down foo bar baz steeple x toolongword").split(" ");

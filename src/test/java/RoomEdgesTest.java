@@ -83,6 +83,15 @@ public final class RoomEdgesTest {
         Talk.due("onto the first", room.act(ON, 0), 1);
         Talk.due("where it is then", room.where(15), 0);
         Talk.due("over the first", room.over(0, 0), 15);
+        Talk.due("where a seventeenth is", room.where(16), NONE);
+        Talk.due("over a seventeenth", room.over(16, 0), NONE);
+        Talk.due("the highest over a seventeenth", room.over(16, 1), NONE);
+        Talk.due("where a seventeenth was", room.was(16, 0), NONE);
+        Talk.due("how it is with a seventeenth", room.owned(16), NONE);
+        Talk.due("take a seventeenth", room.act(TAKE, 16), NONE);
+        room.act(TAKE, 14);
+        Talk.due("on a seventeenth", room.act(ON, 16), NONE);
+        Talk.due("in a seventeenth", room.act(IN, 16), NONE);
     }
 
     /** "a SORT (0 BLOCK, 1 PYRAMID, 2 BOX)"; "NONE: no such ones". */
